@@ -1,0 +1,89 @@
+/** What the tests need to bring a game to where they look at it. */
+final class Table {
+    private Table() {
+    }
+
+    static int nextLot(int x) {
+        return (421 * x + 1663) % 10000;
+    }
+
+    static int lotAfter(int x, int draws) {
+        int lot = x;
+        for (int i = 0; i < draws; i++) {
+            lot = nextLot(lot);
+        }
+        return lot;
+    }
+
+    /** The smallest lot with which both dice of the first moves of a game show these sums. */
+    static int lotFor(int... sums) {
+        for (int x = 0; x < 10000; x++) {
+            if (shows(x, sums)) {
+                return x;
+            }
+        }
+        throw new IllegalStateException("no lot shows these sums");
+    }
+
+    private static boolean shows(int x, int[] sums) {
+        int lot = lotAfter(x, 16);
+        for (int sum : sums) {
+            int first = nextLot(lot);
+            lot = nextLot(first);
+            if (1 + first % 3 + 1 + lot % 3 != sum) {
+                return false;
+            }
+        }
+        return true;
+    }
+
+    /** The value of the treasure that lies on the space when a game begins with the lot x. */
+    static int valueAt(int x, int space) {
+        return 4 * ((space - 1) / 4) + lotAfter(x, space) % 4;
+    }
+
+    /** A new object whose game has so many divers and whose first moves show these sums. */
+    static TankDivers showing(int divers, int... sums) {
+        TankDivers game = new TankDivers();
+        game.begin(divers, lotFor(sums));
+        return game;
+    }
+
+    static void write(TankDivers game, String text) {
+        for (int i = 0; i < text.length(); i++) {
+            game.append(text.charAt(i));
+        }
+    }
+
+    static int play(TankDivers game, String text) {
+        game.clear();
+        write(game, text);
+        return game.play();
+    }
+
+    /** Everything that the looks tell, but the pad and the history. */
+    static String look(TankDivers game) {
+        StringBuilder seen = new StringBuilder();
+        for (int what = 0; what <= 13; what++) {
+            seen.append(game.count(what)).append(' ');
+        }
+        for (int diver = 0; diver < game.count(0); diver++) {
+            seen.append("| ");
+            for (int what = 0; what <= 8; what++) {
+                seen.append(game.diver(diver, what)).append(' ');
+            }
+            for (int stack = 0; stack < 7; stack++) {
+                for (int what = 0; what <= 3; what++) {
+                    seen.append(game.stack(diver, stack, what)).append(' ');
+                }
+            }
+        }
+        for (int space = 1; space <= 17; space++) {
+            seen.append("/ ");
+            for (int what = 0; what <= 2; what++) {
+                seen.append(game.space(space, what)).append(' ');
+            }
+        }
+        return seen.append(game.leader()).append(' ').append(game.used()).toString();
+    }
+}
