@@ -15,7 +15,7 @@ final class Table {
         return lot;
     }
 
-    /** The smallest lot with which both dice of the first moves of a game show these sums. */
+    /** The smallest lot with which both dice of the first moves of a game show these sums; 0 is any sum. */
     static int lotFor(int... sums) {
         for (int x = 0; x < 10000; x++) {
             if (shows(x, sums)) {
@@ -30,7 +30,7 @@ final class Table {
         for (int sum : sums) {
             int first = nextLot(lot);
             lot = nextLot(first);
-            if (1 + first % 3 + 1 + lot % 3 != sum) {
+            if (sum != 0 && 1 + first % 3 + 1 + lot % 3 != sum) {
                 return false;
             }
         }
