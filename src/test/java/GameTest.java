@@ -10,6 +10,7 @@ final class GameTest {
         newObject();
         beginning();
         beginningAgain();
+        beginningBehindRounds();
         wrongBeginnings();
         stepsDown();
         stepsOverOthers();
@@ -87,7 +88,32 @@ final class GameTest {
         DUE.is("begin again", game.begin(4, x), 120);
         DUE.is("refused in earlier games", game.count(12), 1);
         DUE.is("no dice in this game", game.count(11), 0);
-        DUE.same("all else is new", Table.look(game).replace(" 0 1 " + game.count(13), " 0 0 " + game.count(13)), fresh);
+        DUE.same("all else is new", Table.look(game).replace(" 0 1 " + game.count(13), " 0 0 " + game.count(13)),
+                fresh);
+    }
+
+    private static void beginningBehindRounds() {
+        TankDivers game = Table.showing(4, 3, 4, 5);
+        String fresh = Table.look(game);
+        for (int i = 0; i < 200 && game.count(2) < 2; i++) {
+            game.move(game.diver(game.count(3), 1) == 0 && game.diver(game.count(3), 3) > 1);
+            if (game.take() < 10) {
+                game.nothing();
+            }
+            DUE.is("begin", game.begin(4, Table.lotFor(3, 4, 5)), 120);
+            DUE.is("undo()", game.undo(), 3);
+        }
+        DUE.so("something was brought", game.count(9) > 0);
+        int refused = game.count(12);
+        game.begin(4, Table.lotFor(3, 4, 5));
+        DUE.is("refused in earlier games", game.count(12), refused);
+        for (int diver = 0; diver < 4; diver++) {
+            for (int what = 0; what <= 8; what++) {
+                DUE.is("diver(" + diver + ", " + what + ")", game.diver(diver, what), 0);
+            }
+        }
+        String now = Table.look(game);
+        DUE.same("all else is new", now.replace(" 0 " + refused + " ", " 0 0 "), fresh);
     }
 
     private static void wrongBeginnings() {
@@ -337,7 +363,7 @@ final class GameTest {
 
     /** With six stacks no dice lead further, so that the diver stands on the blank space for good. */
     private static void sixStacks() {
-        TankDivers game = withSixStacks();
+        TankDivers game = Table.withSixStacks();
         int place = game.diver(0, 0);
         DUE.is("six stacks", game.diver(0, 3), 6);
         int before = game.count(5);
@@ -345,23 +371,6 @@ final class GameTest {
         DUE.is("six breaths", game.count(5), Math.max(0, before - 6));
         DUE.is("the space is blank", game.take(), 6);
         DUE.is("lay the last one", game.lay(5), 15);
-    }
-
-    private static TankDivers withSixStacks() {
-        for (int x = 0; x < 10000; x++) {
-            TankDivers game = new TankDivers();
-            game.begin(2, x);
-            for (int turn = 0; turn < 12; turn++) {
-                game.move(false);
-                if (turn % 2 == 1 || game.take() < 10) {
-                    game.nothing();
-                }
-            }
-            if (game.diver(0, 3) == 6) {
-                return game;
-            }
-        }
-        throw new IllegalStateException("no lot gives six stacks");
     }
 
     private static void homeIsTheShip() {

@@ -17,6 +17,7 @@ final class HistoryTest {
         snapshots();
         snapshotsStay();
         snapshotOfRefusals();
+        stacksAndDrownedComeBack();
         manyChanges();
         DUE.end();
     }
@@ -213,6 +214,27 @@ final class HistoryTest {
         game.undo();
         game.undo();
         DUE.is("as before restore", game.count(12), 3);
+    }
+
+    private static void stacksAndDrownedComeBack() {
+        TankDivers game = new TankDivers();
+        game.begin(3, 5);
+        DUE.is("a round, and stacks in the next one",
+                Table.play(game, "dtdtdtundtdtdndtdtdndtdtdndn") + Table.play(game, "dtdndtdt"), 36);
+        String before = Table.look(game);
+        DUE.is("drowned", game.diver(1, 8), 1);
+        game.save();
+        Table.play(game, "dtdtdndn");
+        game.begin(3, 77);
+        Table.play(game, "dtdtdt");
+        DUE.is("undo()", game.undo(), 3);
+        game.undo();
+        game.undo();
+        DUE.same("undone", Table.look(game), before);
+        game.begin(3, 77);
+        Table.play(game, "dtdtdt");
+        game.restore();
+        DUE.same("restored", Table.look(game), before);
     }
 
     /** As many calls as an object is used for, undone and done in turn. */

@@ -15,6 +15,7 @@ final class OddsTest {
         homewardOfOne();
         homewardOfMore();
         homewardOverOthers();
+        homewardFromTheEnd();
         homewardNotPossible();
         used();
         brought();
@@ -172,6 +173,31 @@ final class OddsTest {
         DUE.is("two moves", back.homeward(2), 81);
     }
 
+    /** From 16, over the other one: 15 steps, by moves of 2 to 6 steps. */
+    private static void homewardFromTheEnd() {
+        TankDivers game = new TankDivers();
+        for (int i = 0; i < 40 || game.diver(game.count(3), 0) != 16; i++) {
+            game.move(false);
+            game.nothing();
+        }
+        DUE.is("the other one", game.diver(1 - game.count(3), 0), 15);
+        long[] ways = {1};
+        for (int moves = 1; moves <= 6; moves++) {
+            long[] next = new long[ways.length + 6];
+            for (int gone = 0; gone < ways.length; gone++) {
+                for (int step = 2; step <= 6; step++) {
+                    next[gone + step] += ways[gone] * (3 - Math.abs(step - 4));
+                }
+            }
+            ways = next;
+            long home = 0;
+            for (int gone = 15; gone < ways.length; gone++) {
+                home += ways[gone];
+            }
+            DUE.is("homeward(" + moves + ")", game.homeward(moves), home);
+        }
+    }
+
     private static void homewardNotPossible() {
         TankDivers game = Table.showing(2, 4, 2);
         DUE.is("in the ship", game.homeward(1), -2);
@@ -191,6 +217,7 @@ final class OddsTest {
         DUE.is("0 is home", game.diver(0, 2), 1);
         DUE.is("without the one who is home", game.used(), 2);
         DUE.is("though the stack is still there", game.diver(0, 3), 1);
+        DUE.is("begin() tells all values though there are stacks", game.begin(2, 3), 120);
     }
 
     private static void brought() {
@@ -200,6 +227,9 @@ final class OddsTest {
         Table.play(game, "dtdtun");
         DUE.real("not before the end of the round", game.brought(), 0.0);
         Table.play(game, "un");
+        DUE.so("something is brought", game.brought() > 0.0);
+        Table.play(game, "dtdt");
+        DUE.so("and others have stacks", game.count(8) > 0);
         DUE.real("both treasures", game.brought(), (Table.valueAt(x, 2) + Table.valueAt(x, 4)) / 120.0);
         game.begin(2, 0);
         DUE.real("nothing in this game", game.brought(), 0.0);

@@ -1,17 +1,15 @@
-import java.util.ArrayList;
-import java.util.List;
 import java.util.Random;
 
 /** Random runs of 512 calls, each answer held against the one of the plain model. */
 final class RandomRunsTest {
-    private static final int RUNS = 3000;
+    private static final int RUNS = 1500;
     private static final int CALLS = 512;
     private static final String LETTERS = "dutnl012345x !~D";
 
     private final Random random;
     private final TankDivers game = new TankDivers();
     private final PlainModel model = new PlainModel();
-    private final List<String> calls = new ArrayList<>();
+    private int call = 0;
     private boolean wrong = false;
 
     private RandomRunsTest(long seed) {
@@ -28,7 +26,7 @@ final class RandomRunsTest {
 
     private boolean holds() {
         int style = random.nextInt(4);
-        for (int call = 0; call < CALLS && !wrong; call++) {
+        for (call = 0; call < CALLS && !wrong; call++) {
             int kind = random.nextInt(100);
             if (kind < 55) {
                 act(style);
@@ -39,17 +37,39 @@ final class RandomRunsTest {
             } else {
                 look();
             }
+            if (call % 16 == 15) {
+                lookAtAll();
+            }
         }
         return !wrong;
     }
 
-    private void compare(String call, double got, double want) {
-        calls.add(call + " -> " + want);
-        if (got != want) {
+    private void lookAtAll() {
+        for (int what = -1; what <= 16; what++) {
+            compare("count(" + what + ")", game.count(what), model.count(what));
+        }
+        for (int diver = -1; diver <= 4; diver++) {
+            for (int what = -1; what <= 9; what++) {
+                compare("diver(" + diver + ", " + what + ")", game.diver(diver, what), model.diver(diver, what));
+            }
+            for (int stack = -1; stack <= 6; stack++) {
+                for (int what = 0; what <= 3; what++) {
+                    compare("stack(" + diver + ", " + stack + ", " + what + ")",
+                            game.stack(diver, stack, what), model.stack(diver, stack, what));
+                }
+            }
+        }
+        for (int space = 0; space <= 17; space++) {
+            for (int what = 0; what <= 2; what++) {
+                compare("space(" + space + ", " + what + ")", game.space(space, what), model.space(space, what));
+            }
+        }
+    }
+
+    private void compare(String what, double got, double want) {
+        if (got != want && !wrong) {
             wrong = true;
-            int from = Math.max(0, calls.size() - 40);
-            System.out.println(String.join("\n", calls.subList(from, calls.size())));
-            System.out.println(call + " answered " + got + ", due is " + want);
+            System.out.println("call " + call + ", " + what + " answered " + got + ", due is " + want);
         }
     }
 

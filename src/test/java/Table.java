@@ -61,6 +61,24 @@ final class Table {
         return game.play();
     }
 
+    /** The diver 0 has six stacks and is on turn. */
+    static TankDivers withSixStacks() {
+        for (int x = 0; x < 10000; x++) {
+            TankDivers game = new TankDivers();
+            game.begin(2, x);
+            for (int turn = 0; turn < 12; turn++) {
+                game.move(false);
+                if (turn % 2 == 1 || game.take() < 10) {
+                    game.nothing();
+                }
+            }
+            if (game.diver(0, 3) == 6) {
+                return game;
+            }
+        }
+        throw new IllegalStateException("no lot gives six stacks");
+    }
+
     /** Everything that the looks tell, but the pad and the history. */
     static String look(TankDivers game) {
         StringBuilder seen = new StringBuilder();

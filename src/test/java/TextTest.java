@@ -13,6 +13,7 @@ final class TextTest {
         playing();
         stops();
         stopAtALay();
+        layEachNumber();
         faultyPadsAreNotPlayed();
         whyIsKept();
         playIsOneChange();
@@ -166,6 +167,16 @@ final class TextTest {
         DUE.is("positions behind a digit count it", Table.play(behind, "dtdndtdndtdndl1dl0"), 15);
         DUE.is("reason", behind.why(0), 6);
         DUE.is("position", behind.why(1), 16);
+    }
+
+    private static void layEachNumber() {
+        for (int number = 0; number <= 5; number++) {
+            TankDivers game = Table.withSixStacks();
+            int value = game.stack(0, number, 1);
+            DUE.is("the move and the lay", Table.play(game, "dl" + number), 2);
+            DUE.is("five are left", game.diver(0, 3), 5);
+            DUE.is("it lies there", game.space(game.diver(0, 0), 1), value);
+        }
     }
 
     private static void faultyPadsAreNotPlayed() {
