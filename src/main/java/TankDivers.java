@@ -742,7 +742,12 @@ public final class TankDivers {
                 path.setPile(space, crew.removePile(onTurn, stack));
                 answer += crew.held.get(onTurn);
             }
-            endTurn();
+            deedDue = false;
+            if (tank == 0 || crew.allHome()) {
+                endRound();
+            } else {
+                onTurn = crew.nextOut(onTurn);
+            }
             return answer;
         }
 
@@ -774,15 +779,6 @@ public final class TankDivers {
                 return NO_SUCH_STACK;
             }
             return path.pileAt(placeOnTurn()) == Pile.BLANK ? NO_REASON : SPACE_NOT_BLANK;
-        }
-
-        private void endTurn() {
-            deedDue = false;
-            if (tank == 0 || crew.allHome()) {
-                endRound();
-            } else {
-                onTurn = crew.nextOut(onTurn);
-            }
         }
 
         private void endRound() {

@@ -176,6 +176,7 @@ final class TextTest {
             DUE.is("the move and the lay", Table.play(game, "dl" + number), 2);
             DUE.is("five are left", game.diver(0, 3), 5);
             DUE.is("it lies there", game.space(game.diver(0, 0), 1), value);
+            DUE.is("and goes on behind it", Table.play(Table.withSixStacks(), "dl" + number + "dn"), 4);
         }
     }
 
