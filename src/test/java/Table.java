@@ -61,6 +61,55 @@ final class Table {
         return game.play();
     }
 
+    /** Does the turns by calls of move, take, lay and nothing, and tells what the last one answered. */
+    static int act(TankDivers game, String turns) {
+        int answer = 0;
+        for (int i = 0; i < turns.length(); i++) {
+            answer = switch (turns.charAt(i)) {
+                case 'd' -> game.move(false);
+                case 'u' -> game.move(true);
+                case 't' -> game.take();
+                case 'n' -> game.nothing();
+                case 'l' -> {
+                    i++;
+                    yield game.lay(turns.charAt(i) - '0');
+                }
+                default -> throw new IllegalArgumentException(turns);
+            };
+        }
+        return answer;
+    }
+
+    /** A new object whose game has so many divers, began with the lot and has come as far as the turns. */
+    static TankDivers at(int divers, int lot, String turns) {
+        TankDivers game = new TankDivers();
+        game.begin(divers, lot);
+        act(game, turns);
+        return game;
+    }
+
+    /** The place of the diver on turn. */
+    static int place(TankDivers game) {
+        return game.diver(game.count(3), 0);
+    }
+
+    /** How many stacks the diver on turn has. */
+    static int held(TankDivers game) {
+        return game.diver(game.count(3), 3);
+    }
+
+    /** All divers who are out turn back as soon as they can, until the round ends. */
+    static void endRound(TankDivers game) {
+        int round = game.count(2);
+        for (int i = 0; i < 60 && game.count(2) == round; i++) {
+            int diver = game.count(3);
+            if (game.count(4) == 0) {
+                game.move(game.diver(diver, 1) == 0 && game.diver(diver, 0) > 0);
+            }
+            game.nothing();
+        }
+    }
+
     /** The diver 0 has six stacks and is on turn. */
     static TankDivers withSixStacks() {
         for (int x = 0; x < 10000; x++) {
