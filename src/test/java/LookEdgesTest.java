@@ -18,16 +18,19 @@ final class LookEdgesTest {
         upOrNot();
         homeInThisRound();
         treasuresOfStacks();
+        scoreAndTreasures();
         roundsOfDrowning();
         stacksOfADiver();
         treasuresOfAStack();
         spacesOfThePath();
         noSpaceAtAll();
+        sizesOfSpaces();
         diverOnASpace();
         numbersOfCounts();
         spacesThatAreBlank();
         diceOfTheLatestMove();
         nobodyOnTurn();
+        breathsInTheTank();
         treasuresOfTheGame();
         padAndHistory();
         greatestScore();
@@ -39,6 +42,7 @@ final class LookEdgesTest {
         neverOrAlwaysHome();
         homeFromTheLastSpaces();
         tankDoesNotMatter();
+        othersDoNothing();
         fromTheShipOrADeed();
         moreThanTheTank();
         usedByThoseWhoAreOut();
@@ -134,6 +138,29 @@ final class LookEdgesTest {
         DUE.is("with their values", game.space(space, 1), first);
         DUE.is("none at first", new TankDivers().diver(0, 3), 0);
         DUE.is("six at most", Table.withSixStacks().diver(0, 3), 6);
+    }
+
+    private static void scoreAndTreasures() {
+        DUE.sentence("6: the score; 7: treasures that are the diver's;");
+        TankDivers game = Table.at(2, 7276, "dtdtunu");
+        int[] values = {game.diver(0, 5), game.diver(1, 5)};
+        DUE.is("both are home", game.diver(0, 2) + game.diver(1, 2), 2);
+        DUE.is("not before the end of the round", game.diver(0, 6) + game.diver(0, 7), 0);
+        game.nothing();
+        for (int diver = 0; diver < 2; diver++) {
+            DUE.is("score", game.diver(diver, 6), values[diver]);
+            DUE.is("treasures", game.diver(diver, 7), 1);
+            DUE.is("no stacks then", game.diver(diver, 3), 0);
+        }
+        TankDivers all = Table.at(4, 4940, ALL_BROUGHT);
+        int treasures = 0;
+        int score = 0;
+        for (int diver = 0; diver < 4; diver++) {
+            treasures += all.diver(diver, 7);
+            score += all.diver(diver, 6);
+        }
+        DUE.is("all sixteen", treasures, 16);
+        DUE.is("all values", score, 120);
     }
 
     private static void roundsOfDrowning() {
@@ -256,6 +283,23 @@ final class LookEdgesTest {
         DUE.is("nothing", game.nothing(), 10);
     }
 
+    private static void sizesOfSpaces() {
+        DUE.sentence("0: how many treasures it has, 0 for a blank one; 1: their values together;");
+        TankDivers game = Table.at(4, 8219, "dtdtdtdt");
+        for (int diver = 0; diver < 4; diver++) {
+            DUE.is("blank", game.space(game.diver(diver, 0), 0), 0);
+            DUE.is("no values", game.space(game.diver(diver, 0), 1), 0);
+        }
+        boolean[] sizes = new boolean[4];
+        TankDivers later = Table.at(2, 9659, "dtdtdtdtdtdtdtdtdtdtdndt");
+        for (int space = 1; space <= later.count(1); space++) {
+            int size = later.space(space, 0);
+            DUE.so("0 to 3", size >= 0 && size <= 3);
+            sizes[size] = true;
+        }
+        DUE.so("blank ones, of one and of three", sizes[0] && sizes[1] && sizes[3]);
+    }
+
     private static void diverOnASpace() {
         DUE.sentence("2: the diver there, NOT_FOUND without one");
         TankDivers game = Table.at(4, 466, "dndndndn");
@@ -345,6 +389,21 @@ final class LookEdgesTest {
         DUE.is("neither", game.count(4), 2);
         game.undo();
         DUE.so("somebody again", game.count(3) >= 0 && game.count(4) == 1 && game.count(2) == 2);
+    }
+
+    private static void breathsInTheTank() {
+        DUE.sentence("5: breaths in the tank;");
+        DUE.is("at first", new TankDivers().count(5), 25);
+        TankDivers game = Table.at(2, 487, "dtdtdtundtdtdtdndn");
+        DUE.so("few", game.count(5) > 0 && game.count(5) < 6);
+        game.move(false);
+        DUE.is("none", game.count(5), 0);
+        game.move(false);
+        DUE.is("a refused move uses none", game.count(5), 0);
+        game.nothing();
+        DUE.is("in the next round", game.count(5), 25);
+        game.undo();
+        DUE.is("behind undo()", game.count(5), 0);
     }
 
     private static void treasuresOfTheGame() {
@@ -503,12 +562,14 @@ final class LookEdgesTest {
         return leading;
     }
 
-    /** The diver on turn would go up over the other one, if that one is on the way. */
+    /** The diver on turn would go up, over those who are on the way. */
     private static void homeward(TankDivers game, int place, int stacks) {
         DUE.is("place", Table.place(game), place);
         DUE.is("stacks", Table.held(game), stacks);
-        int other = game.diver(1 - game.count(3), 0);
-        int steps = other > 0 && other < place ? place - 1 : place;
+        int steps = place;
+        for (int other = 0; other < game.count(0); other++) {
+            steps -= game.diver(other, 0) > 0 && game.diver(other, 0) < place ? 1 : 0;
+        }
         for (int moves = 1; moves <= 6; moves++) {
             DUE.is("homeward(" + moves + ") from " + place, game.homeward(moves), leading(moves, stacks, steps));
         }
@@ -538,6 +599,16 @@ final class LookEdgesTest {
         homeward(game, 9, 3);
         DUE.so("home by six moves", game.homeward(6) > 0);
         DUE.is("not by one", game.homeward(1), 0);
+    }
+
+    private static void othersDoNothing() {
+        DUE.sentence("if others did nothing");
+        TankDivers all = Table.at(3, 2676, "dndndnun");
+        DUE.is("on 3, over 2 and 1", all.homeward(1), 9);
+        for (int x = 0; x < 30; x++) {
+            TankDivers game = Table.at(4, x, "dt" + "dn".repeat(8 + x % 4));
+            homeward(game, Table.place(game), Table.held(game));
+        }
     }
 
     private static void fromTheShipOrADeed() {

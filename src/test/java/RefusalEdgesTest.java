@@ -32,6 +32,7 @@ final class RefusalEdgesTest {
         layWithoutStacks();
         layNoSuchStack();
         layOnAStack();
+        refusalsAreChanges();
         countedAlsoInEarlierGames();
         errorsOfBegin();
         errorsOfThePad();
@@ -171,6 +172,7 @@ final class RefusalEdgesTest {
 
     private static void nothingWhenAMoveIsDue() {
         DUE.sentence("Returns 10; the reason, 1 or 2, if it is refused.");
+        DUE.sentence("2 it is time for a move;");
         refused("nothing()", TankDivers::new, 2, TankDivers::nothing);
         refused("nothing() again", () -> Table.at(2, 1, "dn"), 2, TankDivers::nothing);
     }
@@ -241,6 +243,23 @@ final class RefusalEdgesTest {
         DUE.sentence("7 the space is not blank;");
         refused("lay(0)", () -> Table.at(2, 703, "dtdtdtdtd"), 7, g -> g.lay(0));
         refused("lay(1)", () -> Table.at(2, 703, "dtdtdtdtd"), 7, g -> g.lay(1));
+    }
+
+    private static void refusalsAreChanges() {
+        DUE.sentence("what is refused by a reason is one, too (it is counted).");
+        TankDivers game = new TankDivers();
+        String[] turns = {"u", "t", "l0", "n", "u", "t"};
+        for (int i = 0; i < turns.length; i++) {
+            DUE.is("counted", game.count(12), i);
+            DUE.is("recorded", game.count(15), Math.min(4, i));
+            DUE.so("refused", Table.act(game, turns[i]) < 10);
+        }
+        for (int left = 3; left >= 0; left--) {
+            DUE.is("undo()", game.undo(), left);
+            DUE.is("counted", game.count(12), left + 2);
+        }
+        DUE.is("undo()", game.undo(), -2);
+        DUE.is("the first two are not undone", game.count(12), 2);
     }
 
     private static void countedAlsoInEarlierGames() {

@@ -10,6 +10,8 @@ final class TurnEdgesTest {
         sixteenSpaces();
         leastAndGreatestValue();
         valueZeroIsNotBlank();
+        oneTreasureForEachSpace();
+        lotsOfAGame();
         lotGoesAround();
         dieShowsOneToThree();
         fewestAndMostDivers();
@@ -111,6 +113,42 @@ final class TurnEdgesTest {
         DUE.is("score", game.diver(0, 6), 0);
         DUE.is("treasures that are the diver's", game.diver(0, 7), 1);
         DUE.is("spaces", game.count(1), 15);
+    }
+
+    private static void oneTreasureForEachSpace() {
+        DUE.sentence("At its beginning each space s from 1 to 16 gets one treasure: a lot is drawn for each space,"
+                + " from 1 on, and the value is 4 * ((s - 1) / 4) and the remainder of the lot by 4.");
+        int[] lots = {0, 1, 4999, 5000, 9998, 9999};
+        for (int x : lots) {
+            TankDivers game = Table.at(2, x, "");
+            for (int space = 1; space <= 16; space++) {
+                DUE.is("size of " + space, game.space(space, 0), 1);
+                DUE.is("value of " + space, game.space(space, 1), Table.valueAt(x, space));
+            }
+            DUE.is("sixteen lots were drawn", game.count(13), Table.lotAfter(x, 16));
+        }
+    }
+
+    private static void lotsOfAGame() {
+        DUE.sentence("Returns the sum of the values of all treasures; INVALID_ARGUMENT.");
+        DUE.sentence("There is a lot x, 0 to 9999.");
+        TankDivers game = Table.at(3, 9999, "dt");
+        int lot = game.count(13);
+        int[] lots = {Integer.MIN_VALUE, -10000, -1, 10000, 19999, Integer.MAX_VALUE};
+        for (int x : lots) {
+            DUE.is("begin(2, " + x + ")", game.begin(2, x), -1);
+            DUE.is("the lot stays", game.count(13), lot);
+        }
+        DUE.is("begin(2, 0)", game.begin(2, 0), 120);
+        DUE.is("lot", game.count(13), Table.lotAfter(0, 16));
+        DUE.is("begin(2, 9999)", game.begin(2, 9999), 120);
+        DUE.is("lot", game.count(13), Table.lotAfter(9999, 16));
+        for (int i = 0; i < 60; i++) {
+            game.move(false);
+            game.nothing();
+            DUE.so("0 to 9999", game.count(13) >= 0 && game.count(13) <= 9999);
+        }
+        DUE.is("two lots for each move", game.count(13), Table.lotAfter(9999, 16 + 120));
     }
 
     private static void lotGoesAround() {
