@@ -1,8 +1,15 @@
 import java.util.Random;
 
-/** Random runs of 512 calls, each answer held against the one of the plain model. */
+/**
+ * Random runs of 512 calls, each answer held against the one of the plain model. What lookAtAll() asks
+ * between them comes on top: the program counts no calls.
+ */
 final class RandomRunsTest {
     private static final int RUNS = 1500;
+
+    /** From this style on divers bring stacks home, so that the path becomes short. */
+    private static final int BRINGING = 4;
+    private static final int STYLES = 6;
     private static final int CALLS = 512;
     private static final String LETTERS = "dutnl012345x !~D";
 
@@ -11,6 +18,7 @@ final class RandomRunsTest {
     private final PlainModel model = new PlainModel();
     private int call = 0;
     private boolean wrong = false;
+    private boolean crowded = false;
 
     private RandomRunsTest(long seed) {
         random = new Random(seed);
@@ -18,17 +26,21 @@ final class RandomRunsTest {
 
     public static void main(String[] args) {
         Due due = new Due();
+        int crowded = 0;
         for (int run = 0; run < RUNS; run++) {
-            due.so("run " + run, new RandomRunsTest(run).holds());
+            RandomRunsTest test = new RandomRunsTest(run);
+            due.so("run " + run, test.holds());
+            crowded += test.crowded ? 1 : 0;
         }
+        due.so("in some runs a path had fewer spaces than divers", crowded > 20);
         due.end();
     }
 
     private boolean holds() {
-        int style = random.nextInt(4);
+        int style = random.nextInt(STYLES);
         for (call = 0; call < CALLS && !wrong; call++) {
-            int kind = random.nextInt(100);
-            if (kind < 55) {
+            int kind = random.nextInt(style < BRINGING ? 100 : 400);
+            if (kind < 55 || kind >= 100) {
                 act(style);
             } else if (kind < 65) {
                 text();
@@ -40,6 +52,7 @@ final class RandomRunsTest {
             if (call % 16 == 15) {
                 lookAtAll();
             }
+            crowded |= model.count(1) < model.count(0) && model.count(2) < 3;
         }
         return !wrong;
     }
@@ -74,21 +87,30 @@ final class RandomRunsTest {
     }
 
     private void act(int style) {
-        if (random.nextInt(150) == 0) {
+        if (random.nextInt(style >= BRINGING && model.count(4) == 2 ? 3 : 150) == 0) {
             int divers = 1 + random.nextInt(5);
             int x = random.nextInt(10200) - 100;
             compare("begin(" + divers + ", " + x + ")", game.begin(divers, x), model.begin(divers, x));
         } else if (model.count(4) == 1 ? random.nextInt(20) > 0 : random.nextInt(20) == 0) {
             deed(style);
         } else {
-            boolean back = random.nextInt(style == 0 ? 20 : 4) == 0 && random.nextInt(10) < 8;
+            boolean back = back(style);
             compare("move(" + back + ")", game.move(back), model.move(back));
         }
     }
 
+    private boolean back(int style) {
+        int diver = model.count(3);
+        if (style < BRINGING || diver < 0 || random.nextInt(20) == 0) {
+            return random.nextInt(style == 0 ? 20 : 4) == 0 && random.nextInt(10) < 8;
+        }
+        boolean canTurn = model.diver(diver, 0) > 0 && model.diver(diver, 1) == 0;
+        return canTurn && model.count(2) > 0 && model.diver(diver, 3) > random.nextInt(style - BRINGING + 1);
+    }
+
     private void deed(int style) {
         int kind = random.nextInt(10);
-        if (kind < 4 + style) {
+        if (kind < 4 + style || style >= BRINGING && kind < 9) {
             compare("take()", game.take(), model.take());
         } else if (kind < 7) {
             int stack = random.nextInt(8) - 1;

@@ -14,6 +14,10 @@ final class RoundEdgesTest {
     private static final int[] LOTS = {6061, 2550, 7689, 501, 6888, 5121, 2254, 2049, 1361};
     private static final int[][] SIZES = {{}, {1}, {2}, {3}, {3, 1}, {3, 2}, {3, 3}, {3, 3, 1}, {3, 3, 2}};
 
+    /** The third round of 4 divers with the lot 8985 begins with a path of one space. */
+    private static final String ONE_SPACE_LEFT =
+            "dtdtdndtutundnutdndtdnutdndndtdndtdndndtdtdtdtdtdtundnutundtdndndndnundndndndn";
+
     private RoundEdgesTest() {
     }
 
@@ -28,6 +32,8 @@ final class RoundEdgesTest {
         noBlankSpace();
         deepestIsOnTurn();
         allInTheShip();
+        drownedInTheShip();
+        drownedOutAndInTheShip();
         gameIsOver();
         scoresOfAllRounds();
         DUE.end();
@@ -222,6 +228,52 @@ final class RoundEdgesTest {
         DUE.is("on turn before", two.count(3), 1);
         two.nothing();
         DUE.is("on turn", two.count(3), 0);
+    }
+
+    /** The diver 0 stays on the only space till one breath is left; the others can't leave the ship. */
+    private static TankDivers othersInTheShip() {
+        TankDivers game = Table.at(4, 8985, ONE_SPACE_LEFT);
+        DUE.is("spaces", game.count(1), 1);
+        DUE.is("0 is on turn", game.count(3), 0);
+        Table.act(game, "dt");
+        for (int i = 0; i < 100 && (game.count(5) > 1 || game.count(3) != 0); i++) {
+            DUE.is("the place", game.move(false), game.count(3) == 0 ? 11 : 10);
+            game.nothing();
+        }
+        DUE.is("one breath", game.count(5), 1);
+        return game;
+    }
+
+    private static void drownedInTheShip() {
+        DUE.sentence("(of those in the ship the lowest number first)");
+        TankDivers game = othersInTheShip();
+        DUE.is("the last breath brings 0 home", game.move(true), 10);
+        int[] drowned = new int[4];
+        for (int diver = 0; diver < 4; diver++) {
+            DUE.is("all are in the ship", game.diver(diver, 0), 0);
+            DUE.is(diver + " is home", game.diver(diver, 2), diver == 0 ? 1 : 0);
+            drowned[diver] = game.diver(diver, 8) + (diver == 0 ? 0 : 1);
+        }
+        DUE.is("no breath", game.count(5), 0);
+        DUE.is("the round has not ended", game.count(2), 2);
+        endAsDue("in the ship", game);
+        for (int diver = 0; diver < 4; diver++) {
+            DUE.is(diver + " was not home in so many rounds", game.diver(diver, 8), drowned[diver]);
+        }
+        DUE.is("no space is left", game.count(1), 0);
+        DUE.real("all is brought", game.brought(), 1.0);
+        DUE.is("over", game.count(4), 2);
+    }
+
+    private static void drownedOutAndInTheShip() {
+        DUE.sentence("Then the divers who are not home lose their stacks: from the one who is deepest on");
+        TankDivers game = othersInTheShip();
+        int values = game.diver(0, 5);
+        DUE.is("0 stays", game.move(false), 11);
+        endAsDue("out", game);
+        DUE.is("the stack is the only space again", game.count(1), 1);
+        DUE.is("its values", game.space(1, 1), values);
+        DUE.is("all others' treasures", game.count(9), 120 - values);
     }
 
     private static void gameIsOver() {
