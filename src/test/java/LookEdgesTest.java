@@ -137,7 +137,12 @@ final class LookEdgesTest {
         DUE.is("three lie there", game.space(space, 0), 3);
         DUE.is("with their values", game.space(space, 1), first);
         DUE.is("none at first", new TankDivers().diver(0, 3), 0);
-        DUE.is("six at most", Table.withSixStacks().diver(0, 3), 6);
+        TankDivers six = Table.withSixStacks();
+        DUE.is("six at most", six.diver(0, 3), 6);
+        DUE.is("their treasures", six.diver(0, 4), 6);
+        for (int what = 3; what <= 5; what++) {
+            DUE.is("the other one has none: diver(1, " + what + ")", six.diver(1, what), 0);
+        }
     }
 
     private static void scoreAndTreasures() {

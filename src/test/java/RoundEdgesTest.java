@@ -34,6 +34,7 @@ final class RoundEdgesTest {
         allInTheShip();
         drownedInTheShip();
         drownedOutAndInTheShip();
+        sixStacksSink();
         gameIsOver();
         scoresOfAllRounds();
         DUE.end();
@@ -274,6 +275,21 @@ final class RoundEdgesTest {
         DUE.is("the stack is the only space again", game.count(1), 1);
         DUE.is("its values", game.space(1, 1), values);
         DUE.is("all others' treasures", game.count(9), 120 - values);
+    }
+
+    /** All six of 0 sink, and nothing of 1, who has none. */
+    private static void sixStacksSink() {
+        DUE.sentence("Then the divers who are not home lose their stacks:");
+        TankDivers game = Table.withSixStacks();
+        for (int i = 0; i < 20 && game.count(5) > 0; i++) {
+            if (game.count(4) == 1) {
+                game.nothing();
+            }
+            game.move(false);
+        }
+        DUE.is("stacks of 0 and 1", game.diver(0, 3) * 10 + game.diver(1, 3), 60);
+        endAsDue("six stacks", game);
+        DUE.is("six of sixteen spaces are two then", game.count(1), 12);
     }
 
     private static void gameIsOver() {
